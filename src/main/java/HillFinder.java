@@ -515,7 +515,7 @@ public final class HillFinder {
             }
             System.arraycopy(moved, 0, shares, 0, MOST_CELLS);
             if (holders() == 0) {
-                loseAll();
+                beginAgain();
                 return false;
             }
             row.addMove(dx, dy);
@@ -546,10 +546,10 @@ public final class HillFinder {
                 row.addReading(v);
                 return true;
             }
-            loseAll();
+            beginAgain();
             dropUnfit(v);
             if (holders() == 0) {
-                shareAll();
+                start(NONE);
             }
             row.addReading(v);
             return false;
@@ -563,12 +563,8 @@ public final class HillFinder {
             }
         }
 
-        private void loseAll() {
+        private void beginAgain() {
             losses++;
-            start(NONE);
-        }
-
-        private void shareAll() {
             start(NONE);
         }
 

@@ -501,7 +501,15 @@ public final class PromiseRuns {
         x.meter(0, 1, 1);
         due("like ways: the first", x.best(), 0);
         duePath(x, 4, 0);
-        // Two ways of like fault: 1, 1 along x for the one over cell 3, 2 for the other one.
+        // Of two drifts with like fault the one along y alone has 2 ways, the one along x and y 1.
+        HillFinder edge = over(3, 3, 5, 5, 9, 9, 9, 9, 9, 9, 9);
+        edge.meter(4, 2, 1);
+        edge.begin(4);
+        edge.move(0, 0);
+        edge.read(5);
+        due("best()", edge.best(), 0);
+        duePath(edge, 4, 1);
+        // Cells 0 and 3 are of like fault; from 1, cell 0 is without drift: 9 ways, cell 3 has 3.
         HillFinder y = over(3, 2, 5, 9, 5, 5, 9, 9);
         y.meter(0, 3, 1);
         y.begin(1);
@@ -715,6 +723,9 @@ public final class PromiseRuns {
         due("the middle one", x.height(0), 110);
         due("the other cell stays", x.height(1), 50);
         due("count(6)", x.count(6), 1);
+        due("too high for the mended one", x.check(0, 120), 1);
+        due("too high for the mended one", x.check(0, 114), 1);
+        due("one that fits", x.check(0, 110), 0);
         due("too low", x.check(0, 90), 1);
         due("too low", x.check(0, 80), 1);
         due("one that fits", x.check(0, 112), 0);
